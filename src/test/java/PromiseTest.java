@@ -517,6 +517,13 @@ public final class PromiseTest {
         due("count(4)", x.count(4), 0);
         x = roll("r0;j0;d0;w0;");
         due("a slow one", x.when(0, 0), 2);
+        // Each slow one learns 0 and then 1 twelve days after the one in front of it.
+        x = roll("r0;j0;j1;d1;d1;d1;d1;d0;d1;w0;w0;w0;w0;w0;");
+        due("behind 48 days", x.when(3, 1), 48);
+        due("behind 60 days", x.when(4, 1), 60);
+        x = roll("r0;j0;j1;d1;d1;d1;d1;d1;d0;w0;w0;w0;w0;w0;");
+        due("behind 49 days", x.when(3, 1), 49);
+        due("61 days are too many", x.when(4, 1), NONE);
     }
 
     private static void all() {
@@ -608,6 +615,8 @@ public final class PromiseTest {
         due("nothing changes", x.lesson(0), 2);
         x.days(1);
         due("the lessons keep their places of the day", x.table(2, 0), 12);
+        x.days(1);
+        due("seating begins with this day", x.seating(1, -1), 1);
     }
 
     private static void questions() {
@@ -635,6 +644,7 @@ public final class PromiseTest {
         due("top(0)", x.top(0), 1);
         due("top(1)", x.top(1), 2);
         due("top(2)", x.top(2), BAD);
+        due("top(-1)", x.top(-1), BAD);
         due("fellows(1)", x.fellows(1), 8);
         due("fellows(2)", x.fellows(2), 0);
         due("fellows(4)", x.fellows(4), BAD);
@@ -657,6 +667,7 @@ public final class PromiseTest {
         due("seats of 1: behind one who learns", x.who(1, 1, 1, 0, 4), 2);
         due("seats of 0: who is there comes to its own", x.who(0, 1, 1, 0, 4), 2);
         due("which = 2", x.who(0, 2, 0, 0, 1), BAD);
+        due("which = -1", x.who(0, -1, 0, 0, 1), BAD);
         due("no pupil", x.who(3, 0, 0, 0, 1), BAD);
         due("no row", x.who(0, 0, 8, 0, 1), BAD);
         due("n = 0", x.who(0, 0, 0, 0, 0), BAD);
@@ -687,6 +698,7 @@ public final class PromiseTest {
         due("n = 0", x.what(0, 0, 0, 0, 0), BAD);
         due("n = 13", x.what(0, 0, 0, 0, 13), BAD);
         due("missing", x.what(0, 0, 7, 99, 1), NULL);
+        due("n = 12", x.what(0, 0, 7, 0, 12), NULL);
         due("beyond the end", x.what(0, 0, 0, 3, 1), PLACE);
         due("i = LOW", x.what(0, 0, 0, LOW, 1), PLACE);
         due("nothing changes", x.lesson(0) + x.count(4), 0);
@@ -715,6 +727,9 @@ public final class PromiseTest {
         due("n = -1", x.thought(0, 0, -1, 0, 0), BAD);
         due("p = 11", x.thought(0, 0, 1, 11, 0), BAD);
         due("p = -1", x.thought(0, 0, 1, -1, 0), BAD);
+        due("p = 11, n = 0", x.thought(0, 0, 0, 11, 0), BAD);
+        due("p = -1, n = 0", x.thought(0, 0, 0, -1, 0), BAD);
+        due("what = -1", x.thought(0, 0, 1, 1, -1), BAD);
         due("what = 2", x.thought(0, 0, 1, 1, 2), BAD);
         due("no pupil", x.thought(3, 0, 1, 1, 0), BAD);
         due("no subject", x.thought(0, 2, 1, 1, 0), BAD);
@@ -750,6 +765,7 @@ public final class PromiseTest {
         due("drawn(1, 0, 0)", x.drawn(1, 0, 0), BAD);
         due("drawn(1, 1000000, 0)", x.drawn(1, 1000000, 0), BAD);
         due("drawn(1, 1, 2)", x.drawn(1, 1, 2), BAD);
+        due("drawn(1, 1, -1)", x.drawn(1, 1, -1), BAD);
     }
 
     private static void images() {
@@ -825,6 +841,7 @@ public final class PromiseTest {
         ask(x, 5, 0, -198, 14, 13, 10);
         ask(x, 5, 1, 5 + 198, 23, 20, 14, 13, 10);
         due("ask(5, 2)", x.ask(5, 2), BAD);
+        due("ask(5, -1)", x.ask(5, -1), BAD);
         due("ask(6, 0)", x.ask(6, 0), BAD);
         due("ask(-1, 0)", x.ask(-1, 0), BAD);
         due("a refused ask leaves the trace", x.trace(4), 10);
