@@ -759,6 +759,9 @@ public final class PromiseTest {
         due("a thing forgotten", x.drawn(1, 4, 0), 3);
         due("that all know", x.drawn(1, 4, 1), 2);
         due("nothing changes", x.count(5) + x.count(4), 2);
+        read(x, "r0;j0;d0;c0;c0;c1;");
+        // X is 134456, 2 by 3, 0 by 4: pupil 2 forgets 0, and does not hear it then.
+        due("the one thing forgotten", x.drawn(1, 8, 0), 1);
         due("drawn(60, 999999, 0)", x.drawn(60, 999999, 0) >= 0 ? 1 : 0, 1);
         due("drawn(61, 1, 0)", x.drawn(61, 1, 0), BAD);
         due("drawn(-1, 1, 0)", x.drawn(-1, 1, 0), BAD);
