@@ -22,6 +22,7 @@ public final class RowEdgesTest {
         drops();
         whoWithinTheEnds();
         whoPlaces();
+        kindsAndSeatsThatFit();
         whatWithinTheEnds();
         whatPlaces();
         whoAndWhatWithoutSchool();
@@ -198,6 +199,19 @@ public final class RowEdgesTest {
         AMID.never("who(0, 0, 3, #, 1)", PLACE).never("who(0, 0, 4, #, 1)", NULL).never("who(0, 1, 5, #, 12)", NULL);
         Run most = Run.of("= r0;j0;j0;j0;d0;d1;d2;c0;", "row(6, 2, 40)", "set(6, 39, 1)");
         most.due("who(0, 0, 6, 39, 1)", 54).due("who(0, 0, 6, 40, 1)", PLACE).due("who(0, 0, 6, 28, 12)", 0).due("who(0, 0, 6, 29, 12)", PLACE);
+    }
+
+    private static void kindsAndSeatsThatFit() {
+        Tally.sentence("30", "KINDS (bits 1 to 5), SEATS (0 on, bits): none and all");
+        Run all = Run.of("= r6;j0;d0;c1;c1;c1;c1;c1;c1;", "row(0, 0, 2)", "set(0, 0, 1)");
+        for (int p = 0; p < 6; p++) {
+            all.due("who(" + p + ", 0, 0, 0, 1)", 62).due("who(" + p + ", 1, 0, 0, 1)", 63).due("who(" + p + ", 0, 0, 1, 1)", 0).due("who(" + p + ", 1, 0, 1, 1)", 0);
+        }
+        Run front = Run.of("= r0;j0;d0;c0;c0;c0;c0;c0;c0;", "row(0, 0, 2)", "set(0, 0, 1)");
+        for (int p = 0; p < 6; p++) front.due("who(" + p + ", 1, 0, 0, 1)", 1).due("who(" + p + ", 1, 0, 1, 1)", 62);
+        Run.of("= r6;j0;d0;s0;", "row(0, 0, 1)", "set(0, 0, 1)").due("who(0, 1, 0, 0, 1)", 1).due("who(0, 0, 0, 0, 1)", 54);
+        Tally.sentence("30", "it is put there in place of who is, who comes to its own");
+        Run.of("= r0;j0;d0;c0;c1;c0;", "row(0, 0, 1)", "set(0, 0, 1)").due("who(2, 1, 0, 0, 1)", 5).due("who(0, 1, 0, 0, 1)", 7).due("who(1, 1, 0, 0, 1)", 7);
     }
 
     private static void whatWithinTheEnds() {

@@ -13,6 +13,7 @@ public final class TextEdgesTest {
         wholeSchools();
         inPlaceOfTheOneBefore();
         allStays();
+        allStaysFromAllSides();
         laws();
         subjects();
         lessons();
@@ -112,6 +113,17 @@ public final class TextEdgesTest {
             run.due("pupil(0, 1)", 2).due("kind(2)", 4).due("subject(1)", 1).due("lesson(0)", 1).due("heard(2, 0)", 1).due("trace(2)", 20);
             run.due("status()", 2).due("undo()", 1).due("pupil(0, 1)", 0).due("undo()", 0).due("count(5)", 2).due("restore(1)", 1).due("count(5)", 5);
         }
+    }
+
+    /** Behind a first text with the same fault, a second one has nothing left to change, not even the tape and the fault. */
+    private static void allStaysFromAllSides() {
+        Tally.sentence("7", "a FAULT: all stays, whatever the text has told ahead of it");
+        Scene amid = Scene.amid("r1;j0;j1;d1;d0;c0;c0;c0;w0;", "days(1)", "change(0, 1)");
+        Scene first = amid.and("= x"), second = amid.and("= x", "= r7;"), third = amid.and("= x", "= " + SIX + "j");
+        first.told("= r3;j0;j0;j3;d2;d1;o7;s1;x", FAULT - 24).told("= r6;j0;j0;d0;d1;q1;q1;q1;q1;q1", FAULT - 29).told("= r0;j0;j0;d0", FAULT - 11).told("= r0;j0;j0;", FAULT - 9);
+        first.told("= r6;", FAULT - 3).told("= r0,", FAULT - 2).told("school()", FAULT);
+        second.told("= r4;j0;j0;d1;d1;q3;w8;", FAULT - 19).told("= r0;j0;j0;d1;d2;", FAULT - 13).told("= r0;j0;j2;", FAULT - 7).told("= r7;j0;j0;d0;c0;", FAULT - 1);
+        third.told("= r5;j0;j0;j1;j1;j1;j1;j1;", FAULT - 21).told("= r5;j0;d0;o0;o0;o0;o0;o0;o0;o0;", FAULT - 27).told("= r5;j0;j0;d1;d1;d1;d1;d1;d1;d1;d1;d1;", FAULT - 33);
     }
 
     private static void laws() {
