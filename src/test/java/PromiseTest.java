@@ -38,6 +38,13 @@ public final class PromiseTest {
     }
 
     public static void main(String[] args) {
+        wrongAnswers();
+        System.out.println("PromiseTest: " + asked + " answers, " + wrong + " wrong");
+        if (wrong != 0) System.exit(1);
+    }
+
+    /** How many answers are not as due; BreakTest asks for them by itself. */
+    static int wrongAnswers() {
         newObject();
         rows();
         items();
@@ -74,8 +81,12 @@ public final class PromiseTest {
         asks();
         counts();
         statuses();
-        System.out.println("PromiseTest: " + asked + " answers, " + wrong + " wrong");
-        if (wrong != 0) System.exit(1);
+        leftByRows();
+        leftByTold();
+        leftByDone();
+        leftByForetold();
+        leftByAsked();
+        return wrong;
     }
 
     private static void newObject() {
@@ -168,6 +179,8 @@ public final class PromiseTest {
         due("missing ahead of lanes", x.copy(2, 0, 3, 0, 1), NULL);
         due("missing ahead of places", x.copy(3, -1, 0, 0, 1), NULL);
         due("copy(8, ..)", x.copy(8, 0, 0, 0, 0), BAD);
+        due("copy(-1, ..)", x.copy(-1, 0, 0, 0, 0), BAD);
+        due("copy(0, 0, 8, ..)", x.copy(0, 0, 8, 0, 0), BAD);
         due("copy(3, 0, -1, ..)", x.copy(3, 0, -1, 0, 0), BAD);
     }
 
@@ -429,6 +442,7 @@ public final class PromiseTest {
         due("tell(1, 1) again", x.tell(1, 1), STATE);
         due("tell(1, 0)", x.tell(1, 0), 3);
         due("tell(2, 0)", x.tell(2, 0), BAD);
+        due("tell(-1, 0)", x.tell(-1, 0), BAD);
         due("tell(1, 2)", x.tell(1, 2), BAD);
         due("tell(1, -1)", x.tell(1, -1), BAD);
         due("count(6)", x.count(6), 3);
@@ -500,6 +514,7 @@ public final class PromiseTest {
         due("ahead(0, 1, 2)", x.ahead(0, 1, 2), BAD);
         due("ahead(0, 1, -2)", x.ahead(0, 1, -2), BAD);
         due("ahead(2, 1, 0)", x.ahead(2, 1, 0), BAD);
+        due("ahead(-1, 1, 0)", x.ahead(-1, 1, 0), BAD);
     }
 
     private static void when() {
@@ -548,6 +563,7 @@ public final class PromiseTest {
         due("lacks(0, 4)", x.lacks(0, 4), 24);
         due("lacks(2, 4)", x.lacks(2, 4), 8);
         due("lacks(3, 0)", x.lacks(3, 0), BAD);
+        due("lacks(-1, 0)", x.lacks(-1, 0), BAD);
         due("lacks(0, 5)", x.lacks(0, 5), BAD);
         due("lacks(0, -1)", x.lacks(0, -1), BAD);
         // Known in the middle: what it needs is lacked all the same.
@@ -571,6 +587,7 @@ public final class PromiseTest {
         due("k HIGH", x.shortest(0, 4, HIGH), NONE);
         due("k -2", x.shortest(0, 4, -2), BAD);
         due("no pupil", x.shortest(3, 4, -1), BAD);
+        due("pupil -1", x.shortest(-1, 4, -1), BAD);
         due("no subject", x.shortest(0, 5, -1), BAD);
         due("subject -1", x.shortest(0, -1, -1), BAD);
     }
@@ -670,6 +687,8 @@ public final class PromiseTest {
         due("which = -1", x.who(0, -1, 0, 0, 1), BAD);
         due("no pupil", x.who(3, 0, 0, 0, 1), BAD);
         due("no row", x.who(0, 0, 8, 0, 1), BAD);
+        due("pupil -1", x.who(-1, 0, 0, 0, 1), BAD);
+        due("row -1", x.who(0, 0, -1, 0, 1), BAD);
         due("n = 0", x.who(0, 0, 0, 0, 0), BAD);
         due("n = 13", x.who(0, 0, 5, 0, 13), BAD);
         due("missing", x.who(0, 0, 5, 0, 12), NULL);
@@ -695,6 +714,8 @@ public final class PromiseTest {
         due("lesson -2", x.what(-2, 0, 0, 0, 1), BAD);
         due("no pupil", x.what(0, 2, 0, 0, 1), BAD);
         due("no row", x.what(0, 0, -1, 0, 1), BAD);
+        due("pupil -1", x.what(0, -1, 0, 0, 1), BAD);
+        due("row 8", x.what(0, 0, 8, 0, 1), BAD);
         due("n = 0", x.what(0, 0, 0, 0, 0), BAD);
         due("n = 13", x.what(0, 0, 0, 0, 13), BAD);
         due("missing", x.what(0, 0, 7, 99, 1), NULL);
@@ -733,6 +754,8 @@ public final class PromiseTest {
         due("what = 2", x.thought(0, 0, 1, 1, 2), BAD);
         due("no pupil", x.thought(3, 0, 1, 1, 0), BAD);
         due("no subject", x.thought(0, 2, 1, 1, 0), BAD);
+        due("pupil -1", x.thought(-1, 0, 1, 1, 0), BAD);
+        due("subject -1", x.thought(0, -1, 1, 1, 0), BAD);
         due("nothing changes", x.count(4) + x.pupil(0, 0), 0);
     }
 
@@ -820,6 +843,7 @@ public final class PromiseTest {
         due("as(0, 6)", x.as(0, 6), BAD);
         due("as(0, -1)", x.as(0, -1), BAD);
         due("as(5, 0)", x.as(5, 0), BAD);
+        due("as(-1, 0)", x.as(-1, 0), BAD);
     }
 
     private static void ask(SnakeRoll x, int one, int what, int answer, int... bodies) {
@@ -913,5 +937,143 @@ public final class PromiseTest {
         x.copy(0, 0, 2, 0, 1);
         x.drop(1);
         due("drop has none", x.status(), 0);
+    }
+
+    // ---- what a call leaves as it was, answered or refused
+
+    /** A school on day 1, with a finding of STORE, an image, rows of two lanes. */
+    private static SnakeRoll amid() {
+        SnakeRoll x = roll("r0;j0;j1;d0;d1;c0;q2;s3;");
+        x.days(1);
+        x.image(0);
+        x.row(0, 0, 2);
+        x.row(1, 1, 2);
+        x.copy(0, 0, 1, 0, 1);
+        return x;
+    }
+
+    private static void leavesDay(SnakeRoll x, String call, long answer) {
+        due("the day behind " + call + ", that answered " + answer, x.count(4), 1);
+    }
+
+    private static void leaves(SnakeRoll x, String call, long answer) {
+        leavesDay(x, call, answer);
+        due("status() behind " + call + ", that answered " + answer, x.status(), 5);
+    }
+
+    private static void leftByRows() {
+        promise = "2 to 5, 30, 31, 37, 41";
+        SnakeRoll x = amid();
+        leaves(x, "row(8, 0, 1)", x.row(8, 0, 1));
+        leaves(x, "set(8, 0, 1)", x.set(8, 0, 1));
+        leaves(x, "copy(8, 0, 0, 0, 1)", x.copy(8, 0, 0, 0, 1));
+        leaves(x, "drop(8)", x.drop(8));
+        leaves(x, "who(3, 0, 0, 0, 1)", x.who(3, 0, 0, 0, 1));
+        leaves(x, "what(2, 0, 0, 0, 1)", x.what(2, 0, 0, 0, 1));
+        leaves(x, "as(3, 0)", x.as(3, 0));
+        leavesDay(x, "row(2, 0, -1)", x.row(2, 0, -1));
+        leavesDay(x, "row(2, 0, 1)", x.row(2, 0, 1));
+        leavesDay(x, "set(2, 1, 1)", x.set(2, 1, 1));
+        leavesDay(x, "set(2, 0, 1)", x.set(2, 0, 1));
+        leavesDay(x, "copy(0, 0, 1, 0, 1)", x.copy(0, 0, 1, 0, 1));
+        leavesDay(x, "copy(0, 0, 2, 0, 1)", x.copy(0, 0, 2, 0, 1));
+        leavesDay(x, "drop(7)", x.drop(7));
+        leavesDay(x, "drop(2)", x.drop(2));
+        leavesDay(x, "who(0, 0, 2, 0, 1)", x.who(0, 0, 2, 0, 1));
+        leavesDay(x, "who(0, 0, 0, 0, 1)", x.who(0, 0, 0, 0, 1));
+        leavesDay(x, "what(0, 0, 2, 0, 1)", x.what(0, 0, 2, 0, 1));
+        leavesDay(x, "what(0, 0, 0, 0, 1)", x.what(0, 0, 0, 0, 1));
+        leavesDay(x, "as(0, 5)", x.as(0, 5));
+        leavesDay(x, "as(0, 1)", x.as(0, 1));
+    }
+
+    private static void leftByTold() {
+        promise = "6 to 8";
+        SnakeRoll x = amid();
+        leaves(x, "feed('r')", x.feed('r'));
+        leaves(x, "feed(256)", x.feed(256));
+        leaves(x, "school() with a fault", x.school());
+        leaves(x, "fault()", x.fault());
+        read(x, "r0;j0;d0;c0;");
+        due("status() behind school()", x.status(), 5);
+    }
+
+    private static void leftByDone() {
+        promise = "9 to 18";
+        SnakeRoll x = amid();
+        leaves(x, "days(0)", x.days(0));
+        leaves(x, "change(0, 1)", x.change(0, 1));
+        leaves(x, "change(0, 0)", x.change(0, 0));
+        leaves(x, "teach(0, 1)", x.teach(0, 1));
+        leaves(x, "teach(2, 1)", x.teach(2, 1));
+        leaves(x, "forget(2, 0)", x.forget(2, 0));
+        leaves(x, "forget(2, 0) again", x.forget(2, 0));
+        leaves(x, "forget(3, 0)", x.forget(3, 0));
+        leaves(x, "tell(2, 0)", x.tell(2, 0));
+        leaves(x, "tell(2, 0) again", x.tell(2, 0));
+        leaves(x, "tell(3, 0)", x.tell(3, 0));
+        leaves(x, "undo()", x.undo());
+        leaves(x, "pupil(0, 0)", x.pupil(0, 0));
+        leaves(x, "pupil(0, 5)", x.pupil(0, 5));
+        leaves(x, "heard(0, 0)", x.heard(0, 0));
+        leaves(x, "heard(0, 2)", x.heard(0, 2));
+        leaves(x, "subject(0)", x.subject(0));
+        leaves(x, "subject(2)", x.subject(2));
+        leaves(x, "lesson(0)", x.lesson(0));
+        leaves(x, "lesson(61)", x.lesson(61));
+        x.days(1);
+        due("status() behind days(1)", x.status(), 5);
+        x.restore(0);
+        leaves(x, "undo() of nothing", x.undo());
+    }
+
+    private static void leftByForetold() {
+        promise = "19 to 35";
+        SnakeRoll x = amid();
+        leaves(x, "ahead(0, 2, -1)", x.ahead(0, 2, -1));
+        leaves(x, "ahead(0, 61, -1)", x.ahead(0, 61, -1));
+        leaves(x, "when(0, 1)", x.when(0, 1));
+        leaves(x, "when(0, 2)", x.when(0, 2));
+        leaves(x, "all(0)", x.all(0));
+        leaves(x, "all(2)", x.all(2));
+        leaves(x, "follows(0)", x.follows(0));
+        leaves(x, "follows(3)", x.follows(3));
+        leaves(x, "lacks(0, 1)", x.lacks(0, 1));
+        leaves(x, "lacks(0, 2)", x.lacks(0, 2));
+        leaves(x, "shortest(0, 1, -1)", x.shortest(0, 1, -1));
+        leaves(x, "shortest(0, 1, 6)", x.shortest(0, 1, 6));
+        leaves(x, "shortest(0, 1, -2)", x.shortest(0, 1, -2));
+        leaves(x, "seating(3, 0)", x.seating(3, 0));
+        leaves(x, "seating(13, 0)", x.seating(13, 0));
+        leaves(x, "table(3, 0)", x.table(3, 0));
+        leaves(x, "table(31, 0)", x.table(31, 0));
+        leaves(x, "questions(0)", x.questions(0));
+        leaves(x, "questions(2)", x.questions(2));
+        leaves(x, "top(0)", x.top(0));
+        leaves(x, "top(2)", x.top(2));
+        leaves(x, "fellows(0)", x.fellows(0));
+        leaves(x, "fellows(3)", x.fellows(3));
+        leaves(x, "thought(0, 0, 3, 5, 0)", x.thought(0, 0, 3, 5, 0));
+        leaves(x, "thought(0, 0, 9, 5, 0)", x.thought(0, 0, 9, 5, 0));
+        leaves(x, "drawn(3, 1, 0)", x.drawn(3, 1, 0));
+        leaves(x, "drawn(61, 1, 0)", x.drawn(61, 1, 0));
+        leaves(x, "image(1)", x.image(1));
+        leaves(x, "image(2)", x.image(2));
+        leaves(x, "restore(1)", x.restore(1));
+        leaves(x, "restore(2)", x.restore(2));
+    }
+
+    private static void leftByAsked() {
+        promise = "36 to 41";
+        SnakeRoll x = amid();
+        leaves(x, "kind(0)", x.kind(0));
+        leaves(x, "kind(3)", x.kind(3));
+        leaves(x, "ask(0, 0)", x.ask(0, 0));
+        leaves(x, "ask(0, 2)", x.ask(0, 2));
+        leaves(x, "trace(0)", x.trace(0));
+        leaves(x, "trace(16)", x.trace(16));
+        leaves(x, "count(0)", x.count(0));
+        leaves(x, "count(8)", x.count(8));
+        leaves(x, "status()", x.status());
     }
 }
